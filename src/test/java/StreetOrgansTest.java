@@ -601,8 +601,12 @@ public final class StreetOrgansTest {
     x.tune(3, 60);
     due("no sound", -1, x.best(0));
     StreetOrgans y = new StreetOrgans();
-    y.street(90, 127);
+    y.street(1, 127);
     due("no tunes", -1, y.best(0));
+    y.pin(y.barrel(), 0);
+    due("a single coin", 0, y.best(0));
+    y.tune(0, 1);
+    due("less than a coin", -1, y.best(0));
     for (int bad : notes(-1, 3, LEAST, MOST)) {
       refused(x, INDEX, "street " + bad, () -> x.best(bad));
     }
@@ -660,6 +664,10 @@ public final class StreetOrgansTest {
       due("as it comes", want[what - 5], x.count(what));
     }
     due("with those that are there", 3, x.foresee(1, 5));
+    x.felt(0);
+    due("a cricket stays under a new felt", 3, x.foresee(60, 5));
+    x.chase();
+    due("without the chased, with those that come", 2, x.foresee(1, 5));
     for (int bad : notes(0, -1, 61, LEAST, MOST)) {
       refused(x, ARGUMENT, "nights " + bad, () -> x.foresee(bad, 5));
       refused(x, ARGUMENT, "nights " + bad + " first", () -> x.foresee(bad, 4));
@@ -693,6 +701,28 @@ public final class StreetOrgansTest {
     for (int bad : notes(-1, 4, LEAST, MOST)) {
       refused(x, INDEX, "tune " + bad, () -> x.lasts(bad));
     }
+  }
+
+  private static void aFullTown() {
+    section = "2, 5 and those that go over all";
+    StreetOrgans x = organ(notes(0), notes(1), notes(2), notes(3), notes(4), notes(6, 11));
+    for (int i = 0; i < 8; i++) {
+      x.street(60 + i, 127);
+    }
+    for (int i = 0; i < 5; i++) {
+      x.tune(i, 60);
+    }
+    due("best", 5, x.best(7));
+    due("worst", -1, x.worst(5));
+    due("mean", 10, x.mean());
+    due("the last tune in the last street", 67, x.play(7, 5));
+    due("heard", 1, x.told(7, 4));
+    x.tune(11, 60);
+    due("the last pipe", 11, x.worst(5));
+    due("a night", 0, x.rest(1));
+    due("not heard", 0, x.told(7, 4));
+    dueLong("digest", digestByTheFace(x, new int[7],
+        new int[][] {{0}, {1}, {2}, {3}, {4}, {6, 11}}), x.digest());
   }
 
   private static void mean() {
@@ -795,6 +825,7 @@ public final class StreetOrgansTest {
     worst();
     foresee();
     lasts();
+    aFullTown();
     mean();
     digest();
     System.out.println(checks + " checks, " + wrong + " wrong");
