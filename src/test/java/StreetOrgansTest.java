@@ -800,6 +800,27 @@ public final class StreetOrgansTest {
     dueLong("it changes nothing", x.digest(), x.digest());
   }
 
+  // README.md's example, line by line: if an answer changes here, it has to change there too.
+  private static void theExampleOfTheReadme() {
+    section = "README.md";
+    StreetOrgans organ = new StreetOrgans();
+    int tune = organ.barrel();
+    due("the tune", 0, tune);
+    due("one note", 1, organ.pin(tune, 4));
+    due("two notes", 2, organ.pin(tune, 7));
+    int street = organ.street(60, 0b0000001);
+    due("the street", 0, street);
+    due("the first playing", 60, organ.play(street, tune));
+    due("the felt of pipe 4", 1, organ.pipe(4, 0));
+    due("the felt of pipe 7", 1, organ.pipe(7, 0));
+    due("the sound", 58, organ.sound(tune));
+    due("the second playing", 29, organ.play(street, tune));
+    due("the worst pipe", 4, organ.worst(tune));
+    due("the night's crickets", 0, organ.rest(1));
+    due("the fine", -10, organ.play(street, tune));
+    due("the coins", 99, organ.count(2));
+  }
+
   public static void main(String[] args) {
     theFace();
     aNewObject();
@@ -828,6 +849,7 @@ public final class StreetOrgansTest {
     aFullTown();
     mean();
     digest();
+    theExampleOfTheReadme();
     System.out.println(checks + " checks, " + wrong + " wrong");
     if (wrong != 0) {
       System.exit(1);
